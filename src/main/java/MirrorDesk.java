@@ -44,6 +44,8 @@ public final class MirrorDesk {
     // Above every int, but good behind a - of its own.
     private static final long BELOW_MINUS_ONLY = 2147483648L;
     private static final int BAD = -1;
+    // The level of the signs between two operands that bind most.
+    private static final int TIGHTEST = 10;
 
     // Codes of tokens and of steps. A sign of one character has that character as its code.
     private static final int NO_TOKEN = 0;
@@ -973,12 +975,16 @@ public final class MirrorDesk {
         /** Reads operands with signs that bind at least as much as the level tells. */
         private int readBinary(int level, int depth) {
             int left = readUnary(depth);
+            // What binds more than the sign before it was read with that one's right operand, but
+            // instanceof has none, so behind it such a sign could still stand, and must not.
+            int mostLevel = TIGHTEST;
             for (int n = 0; n < MOST_TOKENS && left != BAD; n++) {
                 int sign = tokens.codeAt(at);
-                if (levelOf(sign) < level) {
+                if (levelOf(sign) < level || levelOf(sign) > mostLevel) {
                     return left;
                 }
                 at++;
+                mostLevel = levelOf(sign);
                 left = sign == INSTANCEOF ? readClassBehind(left) : readRight(sign, left, depth);
             }
             return left;
@@ -1035,7 +1041,7 @@ public final class MirrorDesk {
                 case '*':
                 case '/':
                 case '%':
-                    return 10;
+                    return TIGHTEST;
                 default:
                     return 0;
             }

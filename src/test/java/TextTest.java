@@ -98,7 +98,7 @@ public final class TextTest {
                 "1instanceof A", "cinstanceof A", "c instanceofA", "a=1", "a = 1", "a= =1", "a! =1",
                 "a===1", "a!==1", "a<=>1", "a=>1", "a=<1", "a<<<1", "a>>>>1", "a<<=1", "a>>=1", "a+=1",
                 "b&&&b", "b|||b", "b& &b", "b| |b", "a< <1", "a> >1", "a>> >1", "a> >>1", "a< =1",
-                "a> =1", "a**1", "a//1", "a^^1", "tr ue", "1 2", "a\tb".replace('\t', '#'));
+                "a> =1", "a**1", "a//1", "a^^1", "tr ue", "1 2");
         good("1", " 1 ", "true", "false", "null", "'a'", "1<2", "1<=2", "1>2", "1>=2", "1<<2", "1>>2",
                 "1>>>2", "1==2", "1!=2", "1&2", "1|2", "1^2", "true&&true", "false||true", "! true",
                 "1<-2", "1>-2", "1--1", "1++1", "1+-+-1", "1-~1", "!!true", "  1   +   2  ", "1>>-1",
@@ -170,6 +170,9 @@ public final class TextTest {
                 "instanceof", "c instanceof", "instanceof A", "c instanceof a", "c instanceof int",
                 "c instanceof A[]", "c instanceof (A)", "c instanceof null", "c instanceof A a",
                 "c instanceof A.a", "c instanceof A[0]", "c instanceof -A", "d instanceof int[]", "?",
+                "c instanceof A-1", "c instanceof A+a", "c instanceof A*1", "c instanceof A<<1",
+                "b==c instanceof A-1", "b?c instanceof A>>>1:b", "!c instanceof A/1",
+                "b&&c instanceof A%1==b", "c instanceof A!b", "c instanceof A instanceof A+1",
                 "b?", "b?1", "b?1:", "b:1", "b?:1", "?1:2", "b?1:2:3", "b?1,2", "b?1?2:3", "a!b", "a~b",
                 "a!", "1~", "(1)2", "(a)a", "(1)a", "(a)!b", "(a)~a", "a(b)", "(a)(a)", "this this",
                 "a a", "1'a'", "a null", "d[0]0", "d[0]a", "&&b", "b&&", "||", "==1", "1==", "1<", "<1",
@@ -179,7 +182,9 @@ public final class TextTest {
                 "true||false&&false", "true|false^true&true", "null==null", "null instanceof A==false");
         waiting("c.a", "(c).a", "((c)).a", "c.a+1", "d[a]", "d[d[0]]", "e[0].a", "e[e.length-1].a",
                 "d[b?0:1]", "d.length", "(d).length", "(d)[0]", "-d[0]", "!b", "(a)+a", "(a)-a", "a- -a",
-                "c instanceof A&&b", "b?b?1:2:3", "b?1:b?2:3", "b?(b?1:2):3", "c.a.length".substring(0, 3));
+                "c instanceof A&&b", "c instanceof A==b",
+                "c instanceof A!=b", "b==c instanceof A", "c instanceof A&b", "c instanceof A^b|b",
+                "c instanceof A||b", "c instanceof A?1:2", "b?b?1:2:3", "b?1:b?2:3", "b?(b?1:2):3");
         illTyped("c.a.a", "c.a[0]", "!c instanceof A", "c instanceof A instanceof A", "-b", "1<2<3",
                 "c instanceof A<1", "1?2:3", "b?1:c");
     }
