@@ -31,7 +31,6 @@ public final class MirrorDesk {
     private static final int CLASS_PART = 27;
     private static final int PARTS = 28;
     private static final int PLACES = PARTS * (MOST_OBJECTS + 1);
-    private static final int NO_PLACE = -1;
 
     private static final int MOST_CHARACTERS = 40;
     private static final int MOST_TOKENS = 24;
@@ -1060,7 +1059,8 @@ public final class MirrorDesk {
                 return readOperand(depth);
             }
             at++;
-            int operand = sign == '-' && isBelowMinusOnly() ? readConstant() : readUnary(depth + 1);
+            // Read here, the number is the whole operand: no part of it can follow.
+            int operand = sign == '-' && isTooLarge() ? readConstant() : readUnary(depth + 1);
             return operand == BAD ? BAD : steps.add(code, operand, 0);
         }
 
@@ -1078,14 +1078,9 @@ public final class MirrorDesk {
             }
         }
 
+        /** Whether the next number is good behind a - alone. */
         private boolean isTooLarge() {
             return tokens.kindAt(at) == INT && tokens.numberAt(at) == BELOW_MINUS_ONLY;
-        }
-
-        // With a part behind it the number is not the whole operand of the - before it.
-        private boolean isBelowMinusOnly() {
-            int behind = tokens.codeAt(at + 1);
-            return isTooLarge() && behind != '.' && behind != '[';
         }
 
         // Behind a bracket no type can stand but in a cast, so what is none is ill formed.
@@ -1284,7 +1279,7 @@ public final class MirrorDesk {
         private int kind = NO_KIND;
         private int exception;
         private int at;
-        private int placeNeeded = NO_PLACE;
+        private int placeNeeded;
 
         Evaluation(Target itsTarget, Line itsLine, Reader itsReader, Checker itsChecker) {
             target = itsTarget;
@@ -1318,7 +1313,6 @@ public final class MirrorDesk {
             kind = NO_KIND;
             exception = 0;
             at = 0;
-            placeNeeded = NO_PLACE;
             if (!reader.reads(text, length, steps)) {
                 state = ILL_FORMED;
             } else if (!checker.isWellTyped(steps)) {
@@ -1333,7 +1327,6 @@ public final class MirrorDesk {
         /** Works out steps until one waits or fails; with none left the value is there. */
         void goOn() {
             state = VALUE;
-            placeNeeded = NO_PLACE;
             for (int n = 0; n < MOST_STEPS && state == VALUE && at < steps.size(); n++) {
                 workOut(at);
             }
@@ -1345,7 +1338,6 @@ public final class MirrorDesk {
 
         void stopWaiting(int endState) {
             state = endState;
-            placeNeeded = NO_PLACE;
         }
 
         private void settle(int step, long v) {

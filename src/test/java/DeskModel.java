@@ -379,7 +379,8 @@ final class DeskModel {
                 }
                 String token = matcher.group();
                 from = matcher.end();
-                if (matcher.group(2) != null && from < text.length() && Character.isLetter(text.charAt(from))) {
+                boolean letterBehind = from < text.length() && Character.isLetter(text.charAt(from));
+                if (matcher.group(2) != null && letterBehind) {
                     throw new IllFormed();
                 }
                 checkToken(token, matcher);

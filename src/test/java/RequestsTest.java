@@ -22,6 +22,8 @@ public final class RequestsTest {
         wrongArguments();
         emptyText();
         manyRequests();
+        lastObject();
+        longLineOfClasses();
         Check.end();
     }
 
@@ -489,5 +491,54 @@ public final class RequestsTest {
             Check.same("one waits", desk.answer(3 - n), 1);
         }
         Desks.counts("all are known", desk, 0, 26, 26);
+    }
+
+    private static void lastObject() {
+        MirrorDesk desk = new MirrorDesk();
+        desk.addClass(-1);
+        desk.addClass(0);
+        desk.addField(0, 25, Desks.LONG);
+        for (int object = 1; object < 12; object++) {
+            desk.make(Desks.INTS, 5);
+        }
+        Check.same("the twelfth", desk.make(Desks.B, 0), 12);
+        desk.addVariable(25, Desks.A);
+        desk.setVariable(25, 12);
+        desk.addVariable(24, Desks.INTS);
+        desk.setVariable(24, 11);
+        desk.setPart(12, 25, Long.MIN_VALUE);
+        desk.setPart(11, 4, -5);
+        desk.run(false);
+        Desks.eval(desk, 3, "((B)z).z+y[4]");
+        int[] sorts = {0, 4, 1, 0, 3, 2};
+        int[] of = {25, 12, 12, 24, 11, 11};
+        int[] parts = {0, 0, 25, 0, 0, 4};
+        for (int i = 0; i < sorts.length; i++) {
+            Desks.request("piece " + i, desk, 0, sorts[i], of[i], parts[i], i);
+            Check.same("answered", desk.answer(0), 1);
+        }
+        Check.same("value", desk.value(3), Long.MIN_VALUE - 5);
+        Desks.counts("six pieces", desk, 0, 6, 6);
+    }
+
+    private static void longLineOfClasses() {
+        MirrorDesk desk = new MirrorDesk();
+        for (int type = 0; type < 6; type++) {
+            desk.addClass(type - 1);
+        }
+        desk.addField(0, 0, Desks.INT);
+        Check.isFalse("inherited by five steps", desk.addField(5, 0, Desks.INT));
+        desk.make(9, 0);
+        Check.isTrue("field of the first class", desk.setPart(1, 0, 6));
+        desk.addVariable(0, Desks.A);
+        Check.isTrue("an F is an A", desk.setVariable(0, 1));
+        desk.addVariable(1, 9);
+        desk.setVariable(1, 1);
+        desk.run(false);
+        Check.same("work", Desks.work(desk, 0, "b.a"), Desks.VALUE);
+        Check.same("value", desk.value(0), 6);
+        Check.same("an F is related to A", Desks.eval(desk, 0, "b instanceof A"), Desks.VALUE);
+        Check.same("an A may be an F", Desks.work(desk, 0, "((F)a).a"), Desks.VALUE);
+        Check.same("value", desk.value(0), 6);
     }
 }

@@ -17,6 +17,7 @@ public final class TargetTest {
         valuesOfVariables();
         references();
         parts();
+        sixClasses();
         fieldsOfLaterDate();
         runAndLine();
         Check.end();
@@ -275,6 +276,30 @@ public final class TargetTest {
         Check.isFalse("while stopped", desk.setPart(1, 0, 0));
         desk.run(true);
         Check.isTrue("while it runs again", desk.setPart(1, 0, 0));
+    }
+
+    private static void sixClasses() {
+        MirrorDesk desk = new MirrorDesk();
+        for (int type = 0; type < 6; type++) {
+            desk.addClass(-1);
+        }
+        for (int type = 0; type < 6; type++) {
+            Check.isTrue("field of a class", desk.addField(type, 0, Desks.A + type));
+            Check.isTrue("field of an array", desk.addField(type, 25, Desks.ARRAY_OF_A + type));
+            Check.isTrue("variable of an array", desk.addVariable(type, Desks.ARRAY_OF_A + type));
+            Check.same("object", desk.make(Desks.A + type, 0), 2 * type + 1);
+            Check.same("array", desk.make(Desks.ARRAY_OF_A + type, 5), 2 * type + 2);
+        }
+        for (int type = 0; type < 6; type++) {
+            Check.isTrue("itself", desk.setPart(2 * type + 1, 0, 2 * type + 1));
+            Check.isTrue("its array", desk.setPart(2 * type + 1, 25, 2 * type + 2));
+            Check.isFalse("an array is no object of the class", desk.setPart(2 * type + 1, 0, 2 * type + 2));
+            Check.isFalse("the name behind z", desk.setPart(2 * type + 1, 26, 0));
+            Check.isFalse("the name before a", desk.setPart(2 * type + 1, -1, 0));
+            Check.isTrue("last element", desk.setPart(2 * type + 2, 4, 2 * type + 1));
+            Check.isTrue("variable", desk.setVariable(type, 2 * type + 2));
+            Check.isFalse("another array", desk.setVariable(type, 2 * (type + 1) % 12 + 2));
+        }
     }
 
     private static void fieldsOfLaterDate() {

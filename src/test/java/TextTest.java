@@ -196,8 +196,9 @@ public final class TextTest {
         waiting("(A)c", "(B)c", "(A)this", "(int[])d", "(A[])e", "((B)c).a", "(int)c.a", "(int)d[0]");
         illFormed("(int)", "(A)", "(int[])", "(int", "(A 1", "(long[])null", "(char[])null", "int 1",
                 "(boolean[])null", "(int[]null", "(int[)null", "(int])null", "(int[0])null", "(int[][])null",
-                "(A[]", "(this)1", "(null)1", "(length)1", "(A.a)c", "(A+B)c", "(int)*1", "(int)int",
-                "((int))1", "(int 1)", "(A)[0]", "(A).a", "((A))c", "(A,B)c", "(A&B)c", "(true)1");
+                "(A[]", "(this)1", "(instanceof)1", "(null)1", "(length)1", "(A.a)c", "(A+B)c", "(int)*1", "(int)int",
+                "((int))1", "(int 1)", "(G)null", "(Z)null", "(L)1", "(G[])null", "null instanceof G",
+                 "(A)[0]", "(A).a", "((A))c", "(A,B)c", "(A&B)c", "(true)1");
         illTyped("(A)+a", "(A)-1", "(A)1", "(int)null", "(int)true", "(boolean)1", "(C)null", "(C[])null",
                 "(F)c", "(A)d", "(int[])c", "(A[])c", "(A)e", "(B[])e", "(int[])e", "(A)c.a", "(char)b");
     }
@@ -206,7 +207,9 @@ public final class TextTest {
         good("((((((1))))))", "((((((1))))))+(((1)))", "1+1+1+1+1+1+1+1+1+1+1+1",
                 "true?1:true?1:true?1:true?1:1", "-1+1+1+1+1+1+1+1+1+1+1+1", "~~~~~~~~~~~~~~~~~~~~~~~1",
                 "(int)(int)(int)(int)(int)(int)(int)1", "((((((int)1)))))", "((((((A[])null)))))");
-        illFormed("(((((((1)))))))", "(((((((a)))))))", "1+1+1+1+1+1+1+1+1+1+1+1+1",
+        illFormed("(((((((1)))))))", "(((((((a)))))))", "((((((()))))))", "((((((())))))",
+                "d[d[d[d[d[d[d[]]]]]]]",
+                "1+1+1+1+1+1+1+1+1+1+1+1+1",
                 "true?1:true?1:true?1:true?1:true?1:1", "b?1:b?1:b?1:b?1:b?1:1", "b?b?b?b?b?1:2:3:4:5:6",
                 "~~~~~~~~~~~~~~~~~~~~~~~~1", "--1+1+1+1+1+1+1+1+1+1+1+1", "((((((d[0]))))))",
                 "d[d[d[d[d[d[d[0]]]]]]]", "(((d[d[d[(0)]]])))");
@@ -214,6 +217,15 @@ public final class TextTest {
                 "(((d[d[d[0]]])))", "b?b?b?b?1:2:3:4:5", "b?1:b?1:b?1:b?1:1", "d[0]+d[0]+d[0]+d[0]",
                 "((((((A[])e)[0])))).a", "((((((int[])d))))).length", "(A[])(((((e)))))",
                 "(((((((int)a))))))");
+        String blanks = "                                        ";
+        String[] ends = {"1", "1L", "'1'", "true", "(1)", "null", "1>>>1", "-2147483648"};
+        for (String end : ends) {
+            good(blanks.substring(end.length()) + end, end + blanks.substring(end.length()));
+        }
+        String[] badEnds = {"1+", "1>>>", "'1", "'", "-", "tru", "1La", "2147483648", "1="};
+        for (String end : badEnds) {
+            illFormed(blanks.substring(end.length()) + end, end + blanks.substring(end.length()));
+        }
         Check.same("forty blanks and signs",
                 Desks.eval(Desks.stopped(), 0, "1 +1 +1 +1 +1 +1 +1 +1 +1 +1 +1 + 1     "), Desks.VALUE);
     }

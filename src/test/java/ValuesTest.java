@@ -17,6 +17,7 @@ public final class ValuesTest {
         before();
         casts();
         booleans();
+        whatBindsMore();
         order();
         exceptions();
         exceptionsOfParts();
@@ -220,6 +221,77 @@ public final class ValuesTest {
             value(desk, "a||b?c:a", (a || b ? c : a) ? 1 : 0);
             value(desk, "!a&&b||!c", !a && b || !c ? 1 : 0);
         }
+    }
+
+    private static final String[] INT_SIGNS =
+        {"|", "^", "&", "<<", ">>", ">>>", "+", "-", "*", "/", "%"};
+    private static final int[] INT_LEVELS = {3, 4, 5, 8, 8, 8, 9, 9, 10, 10, 10};
+    private static final String[] BOOLEAN_SIGNS = {"||", "&&", "|", "^", "&", "==", "!="};
+    private static final int[] BOOLEAN_LEVELS = {1, 2, 3, 4, 5, 6, 6};
+
+    private static int two(String sign, int a, int b) {
+        switch (sign) {
+            case "||": case "|":
+                return a | b;
+            case "&&": case "&":
+                return a & b;
+            case "^":
+                return a ^ b;
+            case "!=":
+                return a != b ? 1 : 0;
+            case "==":
+                return a == b ? 1 : 0;
+            case "<<":
+                return a << b;
+            case ">>":
+                return a >> b;
+            case ">>>":
+                return a >>> b;
+            case "+":
+                return a + b;
+            case "-":
+                return a - b;
+            case "*":
+                return a * b;
+            case "/":
+                return a / b;
+            default:
+                return a % b;
+        }
+    }
+
+    /** Every two signs over three operands, against the order that the levels tell. */
+    private static void pairs(String[] signs, int[] levels, String[] written, int[] values) {
+        for (int i = 0; i < signs.length; i++) {
+            for (int j = 0; j < signs.length; j++) {
+                int due = levels[j] > levels[i]
+                        ? two(signs[i], values[0], two(signs[j], values[1], values[2]))
+                        : two(signs[j], two(signs[i], values[0], values[1]), values[2]);
+                value(Desks.stopped(), written[0] + signs[i] + written[1] + signs[j] + written[2], due);
+            }
+        }
+    }
+
+    private static void whatBindsMore() {
+        String[] truths = {"false", "true"};
+        for (int bits = 0; bits < 8; bits++) {
+            int[] values = {bits & 1, bits >> 1 & 1, bits >> 2};
+            pairs(BOOLEAN_SIGNS, BOOLEAN_LEVELS,
+                    new String[] {truths[values[0]], truths[values[1]], truths[values[2]]}, values);
+        }
+        pairs(INT_SIGNS, INT_LEVELS, new String[] {"77", "13", "5"}, new int[] {77, 13, 5});
+        pairs(INT_SIGNS, INT_LEVELS, new String[] {"-99", "7", "3"}, new int[] {-99, 7, 3});
+        value(Desks.stopped(), "1<2==2<1", 0);
+        value(Desks.stopped(), "true==2<1", 0);
+        value(Desks.stopped(), "2<1<<1", 0);
+        value(Desks.stopped(), "1<<1<3", 1);
+        value(Desks.stopped(), "3>2&2>3", 0);
+        value(Desks.stopped(), "null==null==true", 1);
+        value(Desks.stopped(), "-1+2", 1);
+        value(Desks.stopped(), "-1*-2-~3", 6);
+        value(Desks.stopped(), "(char)65536+7", 7);
+        value(Desks.stopped(), "!true||true", 1);
+        value(Desks.stopped(), "true||false?1:2", 1);
     }
 
     private static void order() {
