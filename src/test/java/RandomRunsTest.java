@@ -1,9 +1,14 @@
 import java.util.Random;
 
-/** Runs of calls made at random, on a desk and on the model of the document: all answers alike. */
+/**
+ * Runs of calls made at random, on a desk and on the model of the document: all answers alike, of the 512
+ * calls that an object is used for.
+ */
 public final class RandomRunsTest {
-    private static final int RUNS = 6000;
+    private static final int RUNS = 20000;
     private static final int CALLS = 512;
+    // The rest of the calls is kept for a last look at everything.
+    private static final int CALLS_BEFORE_LAST_LOOK = 370;
 
     private final Random random;
     private final MirrorDesk desk = new MirrorDesk();
@@ -21,7 +26,7 @@ public final class RandomRunsTest {
     private RandomRunsTest(long seed) {
         random = new Random(seed);
         wild = random.nextInt(10) == 0;
-        evals = 10 + random.nextInt(60);
+        evals = 10 + random.nextInt(80);
     }
 
     public static void main(String[] args) {
@@ -48,18 +53,19 @@ public final class RandomRunsTest {
         setUp();
         texts = new RandomTexts(random, variables, fields);
         int patience = 5 + random.nextInt(60);
-        while (calls < CALLS && alike) {
+        while (calls < CALLS_BEFORE_LAST_LOOK && alike) {
             if (wild) {
                 wildCall();
             } else {
                 likelyCall(patience);
             }
             for (int e = 0; e < 4; e++) {
-                states[desk.look(e, 0)]++;
+                states[model.look(e, 0)]++;
             }
-            compareAll();
-            mostWaiting = Math.max(mostWaiting, desk.count(1));
+            lookAround();
+            mostWaiting = Math.max(mostWaiting, model.count(1));
         }
+        lookAtEverything();
     }
 
     private void same(String call, long got, long due) {
@@ -78,28 +84,43 @@ public final class RandomRunsTest {
         return b ? 1 : 0;
     }
 
-    /** Looks at everything; these calls do not count, since they change nothing. */
-    private void compareAll() {
-        int before = calls;
+    private void look(int e, int what) {
+        same("look " + e + " " + what, desk.look(e, what), model.look(e, what));
+    }
+
+    private void value(int e) {
+        same("value " + e, desk.value(e), model.value(e));
+    }
+
+    private void count(int what) {
+        same("count " + what, desk.count(what), model.count(what));
+    }
+
+    private void request(int k, int what) {
+        same("request " + k + " " + what, desk.request(k, what), model.request(k, what));
+    }
+
+    private void lookAround() {
+        int e = random.nextInt(4);
+        look(e, random.nextInt(3));
+        value(e);
+        count(random.nextInt(4));
+        request(random.nextInt(model.count(1) + 1), random.nextInt(4));
+    }
+
+    private void lookAtEverything() {
+        for (int what = -1; what < 5; what++) {
+            count(what);
+        }
         for (int e = -1; e < 5; e++) {
             for (int what = -1; what < 4; what++) {
-                same("look " + e + " " + what, desk.look(e, what), model.look(e, what));
+                look(e, what);
             }
-            same("value " + e, desk.value(e), model.value(e));
+            value(e);
         }
-        for (int what = -1; what < 5; what++) {
-            same("count " + what, desk.count(what), model.count(what));
-        }
-        for (int k = -1; k <= model.count(1) && k < 40; k++) {
+        for (int k = -1; k <= model.count(1); k++) {
             for (int what = 0; what < 5; what++) {
-                same("request " + k + " " + what, desk.request(k, what), model.request(k, what));
-            }
-        }
-        if (alike) {
-            calls = before;
-            int kept = story.lastIndexOf("look -1 -1");
-            if (kept >= 0) {
-                story.setLength(kept);
+                request(k, what);
             }
         }
     }
@@ -222,9 +243,9 @@ public final class RandomRunsTest {
         if (chance < evals) {
             eval(random.nextInt(4), texts.next());
         } else if (chance < 75) {
-            answer(random.nextInt(Math.max(1, desk.count(1))));
+            answer(random.nextInt(Math.max(1, model.count(1))));
         } else if (chance < 82) {
-            refuse(random.nextInt(Math.max(1, desk.count(1))));
+            refuse(random.nextInt(Math.max(1, model.count(1))));
         } else if (chance < 92) {
             again(random.nextInt(4));
         } else if (random.nextInt(patience) < 6) {
