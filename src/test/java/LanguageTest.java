@@ -1,26 +1,41 @@
+import com.sun.source.tree.BinaryTree;
+import com.sun.source.tree.BlockTree;
+import com.sun.source.tree.CatchTree;
 import com.sun.source.tree.ClassTree;
 import com.sun.source.tree.CompilationUnitTree;
+import com.sun.source.tree.EnhancedForLoopTree;
+import com.sun.source.tree.ExpressionTree;
+import com.sun.source.tree.ForLoopTree;
 import com.sun.source.tree.ImportTree;
 import com.sun.source.tree.LineMap;
+import com.sun.source.tree.LiteralTree;
 import com.sun.source.tree.MethodInvocationTree;
 import com.sun.source.tree.MethodTree;
-import com.sun.source.tree.NewArrayTree;
 import com.sun.source.tree.NewClassTree;
+import com.sun.source.tree.ThrowTree;
 import com.sun.source.tree.Tree;
+import com.sun.source.tree.TryTree;
+import com.sun.source.tree.VariableTree;
+import com.sun.source.tree.WhileLoopTree;
 import com.sun.source.util.JavacTask;
 import com.sun.source.util.TreePath;
 import com.sun.source.util.TreePathScanner;
 import com.sun.source.util.Trees;
 import java.io.File;
 import java.io.IOException;
+import java.lang.management.ManagementFactory;
+import java.lang.reflect.Array;
 import java.lang.reflect.Constructor;
 import java.lang.reflect.Field;
 import java.lang.reflect.Method;
 import java.lang.reflect.Modifier;
+import java.nio.file.Files;
 import java.util.ArrayDeque;
+import java.util.Collections;
 import java.util.Deque;
 import java.util.HashMap;
 import java.util.HashSet;
+import java.util.IdentityHashMap;
 import java.util.List;
 import java.util.Map;
 import java.util.Set;
@@ -28,7 +43,6 @@ import java.util.TreeMap;
 import java.util.TreeSet;
 import javax.lang.model.element.Element;
 import javax.lang.model.element.ElementKind;
-import javax.lang.model.element.ExecutableElement;
 import javax.tools.JavaCompiler;
 import javax.tools.StandardJavaFileManager;
 import javax.tools.ToolProvider;
@@ -41,21 +55,39 @@ public final class LanguageTest {
             "boolean put(char)", "int eval(int)", "int again(int)", "int request(int,int)",
             "int answer(int)", "int refuse(int)", "int look(int,int)", "long value(int)", "int count(int)");
     private static final Set<Tree.Kind> LEFT_OUT = Set.of(Tree.Kind.LAMBDA_EXPRESSION,
-            Tree.Kind.MEMBER_REFERENCE, Tree.Kind.TRY, Tree.Kind.THROW, Tree.Kind.SYNCHRONIZED,
-            Tree.Kind.ASSERT, Tree.Kind.SWITCH_EXPRESSION, Tree.Kind.BINDING_PATTERN, Tree.Kind.RECORD,
-            Tree.Kind.ENUM, Tree.Kind.ANNOTATION, Tree.Kind.DOUBLE_LITERAL, Tree.Kind.FLOAT_LITERAL);
-    // What the program uses of the library; LANGUAGE.md, rule 4, lists all of it.
-    private static final Set<String> LIBRARY = Set.of("java.util.Arrays.fill", "java.lang.Integer.bitCount",
-            "java.lang.String.length", "java.lang.String.charAt", "java.lang.String.indexOf",
-            "java.lang.System.arraycopy", "java.lang.Object.<init>");
+            Tree.Kind.MEMBER_REFERENCE, Tree.Kind.SYNCHRONIZED, Tree.Kind.ASSERT);
+    // Rule 4, but for the functions of Integer, Long and Math.
+    private static final Map<String, Set<String>> LIBRARY = Map.of(
+            "java.lang.Object", Set.of("<init>"),
+            "java.lang.String", Set.of("length", "charAt", "isEmpty", "equals", "indexOf", "substring",
+                    "toCharArray", "<init>"),
+            "java.lang.StringBuilder", Set.of("<init>", "append", "charAt", "setCharAt", "setLength",
+                    "deleteCharAt", "reverse", "length", "toString"),
+            "java.util.ArrayList", Set.of("<init>", "add", "get", "set", "remove", "size", "isEmpty",
+                    "clear"),
+            "java.util.List", Set.of("add", "get", "set", "remove", "size", "isEmpty", "clear", "of"),
+            "java.lang.System", Set.of("arraycopy"),
+            "java.util.Arrays", Set.of("copyOf", "copyOfRange", "fill"),
+            "java.lang.Enum", Set.of("<init>"),
+            "Array", Set.of("clone"));
+    private static final Set<String> IMPORTS = Set.of("java.util.Arrays", "java.util.ArrayList",
+            "java.util.List", "java.util.Iterator", "java.util.NoSuchElementException");
+    private static final Set<String> EXCEPTIONS = Set.of("IllegalStateException", "IllegalArgumentException",
+            "IndexOutOfBoundsException", "ArithmeticException", "UnsupportedOperationException",
+            "NoSuchElementException", "RuntimeException");
+    private static final String SIMPLE = "int|long|short|byte|char|boolean|double|float";
 
     private LanguageTest() {
     }
 
-    public static void main(String[] args) throws IOException {
+    public static void main(String[] args) throws IOException, IllegalAccessException {
         face();
         nestedClasses();
+        room();
         File file = new File("src/main/java/MirrorDesk.java");
+        for (char c : Files.readString(file.toPath()).toCharArray()) {
+            Check.isTrue("a sign of 1 .. 127: " + (int) c, c >= 1 && c <= 127);
+        }
         JavaCompiler compiler = ToolProvider.getSystemJavaCompiler();
         try (StandardJavaFileManager files = compiler.getStandardFileManager(null, null, null)) {
             JavacTask task = (JavacTask) compiler.getTask(null, files, null, List.of("-proc:none"), null,
@@ -64,6 +96,8 @@ public final class LanguageTest {
             Iterable<? extends CompilationUnitTree> units = task.parse();
             task.analyze();
             for (CompilationUnitTree unit : units) {
+                Check.isTrue("no package line", unit.getPackageName() == null);
+                Check.same("one class of the file", unit.getTypeDecls().size(), 1);
                 look.scan(unit, null);
             }
             look.end();
@@ -79,6 +113,8 @@ public final class LanguageTest {
         return text.append(")").toString();
     }
 
+    // ---- rules 1, 2 and 5
+
     private static void face() {
         Class<?> desk = MirrorDesk.class;
         Check.isTrue("public and final", desk.getModifiers() == (Modifier.PUBLIC | Modifier.FINAL));
@@ -86,7 +122,7 @@ public final class LanguageTest {
         Set<String> names = new HashSet<>();
         Set<String> open = new TreeSet<>();
         for (Method method : desk.getDeclaredMethods()) {
-            if (!Modifier.isPrivate(method.getModifiers())) {
+            if (!Modifier.isPrivate(method.getModifiers()) && !method.isSynthetic()) {
                 Check.same("public alone: " + method, method.getModifiers(), Modifier.PUBLIC);
                 open.add(signature(method));
                 names.add(method.getName());
@@ -127,13 +163,85 @@ public final class LanguageTest {
 
     private static void staticFields(Class<?> type) {
         for (Field field : type.getDeclaredFields()) {
-            if (Modifier.isStatic(field.getModifiers())) {
-                boolean constant = Set.of("int", "long", "boolean", "char", "java.lang.String")
-                        .contains(field.getType().getName());
-                Check.isTrue("a constant: " + field, constant && Modifier.isFinal(field.getModifiers()));
+            if (Modifier.isStatic(field.getModifiers()) && !type.isEnum()) {
+                String of = field.getType().getSimpleName();
+                Check.isTrue("a constant: " + field, Modifier.isFinal(field.getModifiers())
+                        && (of.matches("(int|long|char|byte)(\\[\\])?|boolean|String")
+                        || field.getType().isArray() && field.getType().getComponentType().isEnum()));
             }
         }
     }
+
+    // ---- room
+
+    /** The objects and arrays that a desk holds, and their fields and elements. */
+    private static long[] held(Object from) throws IllegalAccessException {
+        Set<Object> all = Collections.newSetFromMap(new IdentityHashMap<>());
+        Deque<Object> open = new ArrayDeque<>(List.of(from));
+        long parts = 0;
+        while (!open.isEmpty()) {
+            Object next = open.pop();
+            if (!all.add(next)) {
+                continue;
+            }
+            if (next.getClass().isArray()) {
+                parts += Array.getLength(next);
+                for (int i = 0; next instanceof Object[] row && i < row.length; i++) {
+                    if (row[i] != null) {
+                        open.push(row[i]);
+                    }
+                }
+                continue;
+            }
+            for (Field field : next.getClass().getDeclaredFields()) {
+                if (!Modifier.isStatic(field.getModifiers())) {
+                    parts++;
+                    boolean own = field.getDeclaringClass().getName().startsWith("MirrorDesk");
+                    if (own && !field.getType().isPrimitive()) {
+                        field.setAccessible(true);
+                        if (field.get(next) != null) {
+                            open.push(field.get(next));
+                        }
+                    }
+                }
+            }
+        }
+        return new long[] {all.size(), parts};
+    }
+
+    private static void calls(MirrorDesk desk) {
+        desk.addClass(-1);
+        desk.addVariable(0, Desks.ARRAY_OF_A);
+        for (int object = 1; object <= 12; object++) {
+            desk.make(Desks.ARRAY_OF_A, 5);
+        }
+        desk.setVariable(0, 12);
+        desk.run(false);
+        for (int e = 0; e < 4; e++) {
+            Desks.work(desk, e, "a[" + e + "]==null?a[4]:a[3]");
+        }
+        for (int n = 0; n < 380; n++) {
+            desk.again(n % 4);
+        }
+    }
+
+    /** "some 600,000 objects and arrays, 7.3 million fields and elements in all" of many desks in a run. */
+    private static void room() throws IllegalAccessException {
+        calls(new MirrorDesk());
+        com.sun.management.ThreadMXBean threads =
+                (com.sun.management.ThreadMXBean) ManagementFactory.getThreadMXBean();
+        long bytesBefore = threads.getCurrentThreadAllocatedBytes();
+        MirrorDesk desk = new MirrorDesk();
+        calls(desk);
+        long bytes = threads.getCurrentThreadAllocatedBytes() - bytesBefore;
+        long[] held = held(desk);
+        System.out.println("a desk: " + held[0] + " objects and arrays, " + held[1]
+                + " fields and elements; made in a run of 512 calls: " + bytes + " bytes");
+        Check.isTrue("a desk is a hundredth of the room", held[0] <= 6000 && held[1] <= 73000);
+        Check.isTrue("so are its calls", bytes <= 8 * 73000);
+    }
+
+    // ---- rules 3, 4 and 6 to 12
 
     private static final class Look extends TreePathScanner<Void, Void> {
         private final Trees trees;
@@ -141,7 +249,6 @@ public final class LanguageTest {
         private final Map<Element, Integer> depths = new HashMap<>();
         private final Deque<Element> methods = new ArrayDeque<>();
         private final Set<Element> faceMethods = new HashSet<>();
-        private int loops;
 
         Look(Trees itsTrees) {
             trees = itsTrees;
@@ -159,26 +266,98 @@ public final class LanguageTest {
         public Void scan(Tree tree, Void nothing) {
             if (tree != null) {
                 Check.isFalse("left out: " + tree.getKind(), LEFT_OUT.contains(tree.getKind()));
-                boolean loop = Set.of(Tree.Kind.FOR_LOOP, Tree.Kind.WHILE_LOOP, Tree.Kind.DO_WHILE_LOOP,
-                        Tree.Kind.ENHANCED_FOR_LOOP).contains(tree.getKind());
-                loops += loop ? 1 : 0;
-                super.scan(tree, nothing);
-                loops -= loop ? 1 : 0;
             }
-            return null;
+            return super.scan(tree, nothing);
+        }
+
+        private static boolean isOwn(String type) {
+            for (Class<?> nested : MirrorDesk.class.getDeclaredClasses()) {
+                if (type.matches("(MirrorDesk\\.)?" + nested.getSimpleName() + "(<\\w+>)?")) {
+                    return true;
+                }
+            }
+            return type.matches("MirrorDesk|[A-Z]");
+        }
+
+        private static boolean isType(String type) {
+            String element = type.replaceAll("\\[\\]$|^(Array)?List<|>$", "");
+            return type.matches("(" + SIMPLE + ")(\\[\\]){0,2}|String|StringBuilder|Integer|var")
+                    || type.matches("((Array)?List|Iterator|Iterable)<Integer>") || isOwn(type)
+                    || isOwn(element);
+        }
+
+        @Override
+        public Void visitVariable(VariableTree tree, Void nothing) {
+            Tree parent = getCurrentPath().getParentPath().getLeaf();
+            if (!(parent instanceof CatchTree) && tree.getType() != null) {
+                Check.isTrue("a variable of type " + tree.getType(), isType(tree.getType().toString()));
+            }
+            return super.visitVariable(tree, nothing);
+        }
+
+        @Override
+        public Void visitBinary(BinaryTree tree, Void nothing) {
+            boolean text = trees.getTypeMirror(getCurrentPath()).toString().equals("java.lang.String");
+            Check.isFalse("texts joined by +: " + tree, text);
+            return super.visitBinary(tree, nothing);
+        }
+
+        private static void checkLoop(ExpressionTree condition) {
+            Check.isTrue("a loop that ends: " + condition,
+                    condition != null && !(condition instanceof LiteralTree));
+        }
+
+        @Override
+        public Void visitForLoop(ForLoopTree tree, Void nothing) {
+            checkLoop(tree.getCondition());
+            return super.visitForLoop(tree, nothing);
+        }
+
+        @Override
+        public Void visitWhileLoop(WhileLoopTree tree, Void nothing) {
+            checkLoop(tree.getCondition());
+            return super.visitWhileLoop(tree, nothing);
+        }
+
+        @Override
+        public Void visitEnhancedForLoop(EnhancedForLoopTree tree, Void nothing) {
+            Check.isTrue("the variable of a loop has a type", tree.getVariable().getType() != null);
+            return super.visitEnhancedForLoop(tree, nothing);
+        }
+
+        @Override
+        public Void visitThrow(ThrowTree tree, Void nothing) {
+            boolean good = tree.getExpression() instanceof NewClassTree made
+                    && EXCEPTIONS.contains(made.getIdentifier().toString())
+                    && (made.getArguments().isEmpty()
+                    || made.getArguments().get(0).getKind() == Tree.Kind.STRING_LITERAL);
+            Check.isTrue("a throw of rule 6: " + tree, good);
+            Check.isFalse("a throw in a constructor", methods.peek().getKind() == ElementKind.CONSTRUCTOR);
+            return super.visitThrow(tree, nothing);
+        }
+
+        @Override
+        public Void visitTry(TryTree tree, Void nothing) {
+            Check.isTrue("no finally, no resources",
+                    tree.getFinallyBlock() == null && tree.getResources().isEmpty());
+            for (CatchTree caught : tree.getCatches()) {
+                Check.isTrue("a catch of rule 6: " + caught.getParameter(),
+                        EXCEPTIONS.contains(caught.getParameter().getType().toString()));
+            }
+            return super.visitTry(tree, nothing);
         }
 
         @Override
         public Void visitImport(ImportTree tree, Void nothing) {
             Check.isTrue("import of " + tree.getQualifiedIdentifier(),
-                    tree.getQualifiedIdentifier().toString().equals("java.util.Arrays"));
-            return null;
+                    IMPORTS.contains(tree.getQualifiedIdentifier().toString()));
+            return super.visitImport(tree, nothing);
         }
 
         @Override
         public Void visitClass(ClassTree tree, Void nothing) {
             for (Tree member : tree.getMembers()) {
-                Check.isFalse("a block in a class", member.getKind() == Tree.Kind.BLOCK);
+                Check.isFalse("a static block", member instanceof BlockTree block && block.isStatic());
             }
             return super.visitClass(tree, nothing);
         }
@@ -189,14 +368,18 @@ public final class LanguageTest {
             methods.push(method);
             calls.put(method, new HashSet<>());
             String name = tree.getName().toString();
-            if (method.getModifiers().contains(javax.lang.model.element.Modifier.PUBLIC)) {
+            Check.isFalse("of every object: " + name,
+                    Set.of("equals", "hashCode", "toString").contains(name));
+            boolean ofTheDesk = method.getEnclosingElement().toString().equals("MirrorDesk");
+            if (ofTheDesk && method.getModifiers().contains(javax.lang.model.element.Modifier.PUBLIC)) {
                 faceMethods.add(method);
-            } else {
-                Check.isFalse("a name of the face: " + name,
+            }
+            if (method.getModifiers().contains(javax.lang.model.element.Modifier.PRIVATE)) {
+                Check.isFalse("a private method of a public name: " + name,
                         FACE.stream().anyMatch(one -> one.contains(" " + name + "(")));
             }
             if (lineOf(tree, false) > 0 && lineOf(tree, true) > 0) {
-                Check.isTrue("at most 60 lines: " + name, lineOf(tree, true) - lineOf(tree, false) < 60);
+                Check.isTrue("some sixty lines: " + name, lineOf(tree, true) - lineOf(tree, false) < 66);
             }
             Check.isTrue("at most seven parameters: " + name, tree.getParameters().size() <= 7);
             super.visitMethod(tree, nothing);
@@ -205,38 +388,28 @@ public final class LanguageTest {
         }
 
         private void call(Element called) {
-            Element type = called.getEnclosingElement();
-            boolean own = type.toString().startsWith("MirrorDesk");
+            String type = called.getEnclosingElement().toString().replaceAll("<.*", "");
+            String name = called.getSimpleName().toString();
+            boolean own = type.startsWith("MirrorDesk");
             if (own && !methods.isEmpty()) {
                 calls.get(methods.peek()).add(called);
             }
-            Check.isTrue("of the library: " + type + "." + called,
-                    own || LIBRARY.contains(type + "." + called.getSimpleName()));
+            boolean function = type.matches("java\\.lang\\.(Integer|Long|Math)") && !name.endsWith("Exact");
+            boolean exception = EXCEPTIONS.contains(type.replaceAll(".*\\.", "")) && name.equals("<init>");
+            Check.isTrue("of the library: " + type + "." + called, own || function || exception
+                    || LIBRARY.getOrDefault(type, Set.of()).contains(name));
         }
 
         @Override
         public Void visitMethodInvocation(MethodInvocationTree tree, Void nothing) {
-            Element called = trees.getElement(new TreePath(getCurrentPath(), tree.getMethodSelect()));
-            call(called);
+            call(trees.getElement(new TreePath(getCurrentPath(), tree.getMethodSelect())));
             return super.visitMethodInvocation(tree, nothing);
         }
 
         @Override
         public Void visitNewClass(NewClassTree tree, Void nothing) {
-            Element made = trees.getElement(getCurrentPath());
-            call(made);
-            boolean inConstructor = methods.isEmpty()
-                    || methods.peek().getKind() == ElementKind.CONSTRUCTOR;
-            Check.isTrue("objects are made in constructors: " + made, inConstructor);
+            call(trees.getElement(getCurrentPath()));
             return super.visitNewClass(tree, nothing);
-        }
-
-        @Override
-        public Void visitNewArray(NewArrayTree tree, Void nothing) {
-            boolean inConstructor = methods.isEmpty()
-                    || methods.peek().getKind() == ElementKind.CONSTRUCTOR;
-            Check.isTrue("rows are made in constructors", inConstructor && loops == 0);
-            return super.visitNewArray(tree, nothing);
         }
 
         private Set<Element> reached(Element from) {
@@ -284,9 +457,6 @@ public final class LanguageTest {
             for (Element method : calls.keySet()) {
                 if (reached(method).contains(method)) {
                     recursive.add(method.getSimpleName().toString());
-                    ExecutableElement itself = (ExecutableElement) method;
-                    Check.isTrue("recursion carries its depth: " + method, itself.getParameters().stream()
-                            .anyMatch(one -> one.getSimpleName().contentEquals("depth")));
                 }
             }
             System.out.println("depths: " + deep + "\nrecursive: " + recursive);

@@ -532,10 +532,7 @@ public final class RequestBoundsTest {
 
     // "When the line breaks, all that wait are cut .. no requests are left"
     private static void allFourAreCut() {
-        MirrorDesk desk = desk();
-        for (int e = 0; e < 4; e++) {
-            Desks.eval(desk, e, String.valueOf((char) ('a' + e)));
-        }
+        MirrorDesk desk = fourWait();
         Desks.counts("four", desk, 4, 4, 0);
         Check.isTrue("break", desk.line(false));
         states("all four", desk, Desks.CUT, Desks.CUT, Desks.CUT, Desks.CUT);
@@ -551,10 +548,7 @@ public final class RequestBoundsTest {
 
     // "when the target runs, all that wait are STALE"
     private static void allFourAreStale() {
-        MirrorDesk desk = desk();
-        for (int e = 0; e < 4; e++) {
-            Desks.eval(desk, e, String.valueOf((char) ('a' + e)));
-        }
+        MirrorDesk desk = fourWait();
         Check.isTrue("run", desk.run(true));
         states("all four", desk, Desks.STALE, Desks.STALE, Desks.STALE, Desks.STALE);
         Desks.counts("none left", desk, 0, 4, 0);
@@ -775,30 +769,42 @@ public final class RequestBoundsTest {
         Check.same("it keeps its number", desk.request(0, 3), 5);
     }
 
+    /** Evaluation e waits for the e-th of four requests, each for a variable. */
+    private static MirrorDesk fourWait() {
+        MirrorDesk desk = desk();
+        for (int e = 0; e < 4; e++) {
+            Desks.eval(desk, e, String.valueOf((char) ('a' + e)));
+        }
+        return desk;
+    }
+
+    /** Of four that waited, the k-th is gone: its evaluation has the state told, the others wait on. */
+    private static void oneIsGone(MirrorDesk desk, int k, int state, int known) {
+        Desks.counts("one is gone", desk, 3, 4, known);
+        for (int e = 0; e < 4; e++) {
+            Check.same("state", desk.look(e, 0), e == k ? state : Desks.WAITS);
+            Check.same("value", desk.value(e), e == k && state == Desks.VALUE ? k + 1 : 0);
+        }
+        for (int other = 0; other < 3; other++) {
+            int was = other < k ? other : other + 1;
+            Desks.request("the others", desk, other, 0, was, 0, was);
+        }
+        Check.same("no fourth any more", desk.answer(3), -1);
+        Check.same("no fourth any more", desk.refuse(3), -1);
+    }
+
     // Promise 14: "Answers the k-th request that waits, which is gone then; how many evaluations waited for
     // it (perhaps 0). -1 (refused) if there is none."
     private static void answers() {
+        int[] none = {-1, 4, 5, 256, Integer.MIN_VALUE, Integer.MAX_VALUE};
         for (int k = 0; k < 4; k++) {
-            MirrorDesk desk = desk();
-            for (int e = 0; e < 4; e++) {
-                Desks.eval(desk, e, String.valueOf((char) ('a' + e)));
-            }
-            int[] none = {-1, 4, 5, 256, Integer.MIN_VALUE, Integer.MAX_VALUE};
+            MirrorDesk desk = fourWait();
             for (int wrong : none) {
                 Check.same("none " + wrong, desk.answer(wrong), -1);
             }
             Desks.counts("all wait", desk, 4, 4, 0);
             Check.same("answer " + k, desk.answer(k), 1);
-            Desks.counts("one is gone", desk, 3, 4, 1);
-            for (int e = 0; e < 4; e++) {
-                Check.same("state", desk.look(e, 0), e == k ? Desks.VALUE : Desks.WAITS);
-                Check.same("value", desk.value(e), e == k ? k + 1 : 0);
-            }
-            for (int other = 0; other < 3; other++) {
-                Check.same("the others", desk.request(other, 1), other < k ? other : other + 1);
-                Check.same("with their numbers", desk.request(other, 3), other < k ? other : other + 1);
-            }
-            Check.same("no fourth any more", desk.answer(3), -1);
+            oneIsGone(desk, k, Desks.VALUE, 1);
         }
         Check.same("none at all", desk().answer(0), -1);
         Check.same("none while it runs", new MirrorDesk().answer(0), -1);
@@ -807,26 +813,15 @@ public final class RequestBoundsTest {
     // Promise 15: "Refuses the k-th request that waits, which is gone then; how many evaluations waited for
     // it. -1 (refused) if there is none."
     private static void refusals() {
+        int[] none = {-1, 4, 5, 256, Integer.MIN_VALUE, Integer.MAX_VALUE};
         for (int k = 0; k < 4; k++) {
-            MirrorDesk desk = desk();
-            for (int e = 0; e < 4; e++) {
-                Desks.eval(desk, e, String.valueOf((char) ('a' + e)));
-            }
-            int[] none = {-1, 4, 5, 256, Integer.MIN_VALUE, Integer.MAX_VALUE};
+            MirrorDesk desk = fourWait();
             for (int wrong : none) {
                 Check.same("none " + wrong, desk.refuse(wrong), -1);
             }
             Desks.counts("all wait", desk, 4, 4, 0);
             Check.same("refuse " + k, desk.refuse(k), 1);
-            Desks.counts("one is gone", desk, 3, 4, 0);
-            for (int e = 0; e < 4; e++) {
-                Check.same("state", desk.look(e, 0), e == k ? Desks.REFUSED : Desks.WAITS);
-            }
-            for (int other = 0; other < 3; other++) {
-                Check.same("the others", desk.request(other, 1), other < k ? other : other + 1);
-                Check.same("with their numbers", desk.request(other, 3), other < k ? other : other + 1);
-            }
-            Check.same("no fourth any more", desk.refuse(3), -1);
+            oneIsGone(desk, k, Desks.REFUSED, 0);
         }
         for (int waiting = 0; waiting <= 4; waiting++) {
             MirrorDesk desk = desk();

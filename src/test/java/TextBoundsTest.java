@@ -44,6 +44,7 @@ public final class TextBoundsTest {
         whereCastsStand();
         choiceFromTheRight();
         fromLeftToRight();
+        fromLeastToMost();
         instanceofEndsItsOperand();
         partsBehindOperands();
         operandsAlone();
@@ -604,6 +605,39 @@ public final class TextBoundsTest {
         comesTo("true==1<2", Desks.BOOLEAN, 1);
         comesTo("10-(3-2)", Desks.INT, 9);
         comesTo("1-2+3", Desks.INT, 2);
+    }
+
+    // "from what binds least to what binds most": each line and the one behind it
+    private static void fromLeastToMost() {
+        comesTo("true||true?1:2", Desks.INT, 1);
+        comesTo("true||false&&false", Desks.BOOLEAN, 1);
+        comesTo("false&&false||true", Desks.BOOLEAN, 1);
+        comesTo("false&&true|true", Desks.BOOLEAN, 0);
+        comesTo("true|false&&false", Desks.BOOLEAN, 0);
+        comesTo("1|1^1", Desks.INT, 1);
+        comesTo("1^1|1", Desks.INT, 1);
+        comesTo("1^1&0", Desks.INT, 1);
+        comesTo("0&1^1", Desks.INT, 1);
+        comesTo("false&false==false", Desks.BOOLEAN, 0);
+        comesTo("false==false&false", Desks.BOOLEAN, 0);
+        comesTo("true==1<2", Desks.BOOLEAN, 1);
+        comesTo("1<2!=2>=3", Desks.BOOLEAN, 1);
+        comesTo("true==null instanceof A", Desks.BOOLEAN, 0);
+        comesTo("1<1<<1", Desks.BOOLEAN, 1);
+        comesTo("1<<1<=1", Desks.BOOLEAN, 0);
+        comesTo("1<<1+1", Desks.INT, 4);
+        comesTo("1+1<<1", Desks.INT, 4);
+        comesTo("8-4>>1", Desks.INT, 2);
+        comesTo("1+2*3", Desks.INT, 7);
+        comesTo("2*3+1", Desks.INT, 7);
+        comesTo("9-8/4", Desks.INT, 7);
+        comesTo("9-8%5", Desks.INT, 6);
+        comesTo("~1*3", Desks.INT, -6);
+        comesTo("~1+1", Desks.INT, -1);
+        comesTo("(char)65535+1", Desks.INT, 65536);
+        comesTo("(char)65535*2", Desks.INT, 131070);
+        comesTo("!true||true", Desks.BOOLEAN, 1);
+        good("-d[0]", "-d.length", "-c.a", "(int)c.a", "(A)e[0]", "!b&&b");
     }
 
     // "< <= > >= and instanceof A .. F": behind it stands a class, and what is made so is no operand of a
